@@ -227,6 +227,16 @@ public final class FilterTest {
             check.due(36, "the latest text", true, () -> x.accepts(key, 1, 0, 0));
             check.due(36, "an earlier text", false, () -> x.accepts((key + 9) % 10, 1, 0, 0));
         }
+        ViewMaintainer y = new ViewMaintainer();
+        Check.filter(y, "v<-99&k=0");
+        check.due(36, "setFilter() of v<-9 behind v<-99", 0, () -> Check.filter(y, "v<-9"));
+        check.due(36, "v<-9 behind v<-99", true, () -> y.accepts(0, 0, -10, 0));
+        for (int length = 0; length <= 3; length++) {
+            String text = "v<-9".substring(0, length);
+            check.badArgument(36, "setFilter() of " + text + " behind v<-9", () -> Check.filter(y, text));
+            check.due(37, "faultPosition() of " + text, length, () -> y.faultPosition());
+            Check.filter(y, "v<-9");
+        }
     }
 
     private static void clearFilter() {
