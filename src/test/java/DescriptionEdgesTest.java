@@ -21,6 +21,7 @@ public final class DescriptionEdgesTest {
         sameRowSeveralTimes();
         atMost60Rows();
         atMost60RowsWithDeletions();
+        atMost60DifferentRows();
         tablesAreEmptyAtFirst();
         atMost40Changes();
         batchHasRoomAgain();
@@ -222,6 +223,30 @@ public final class DescriptionEdgesTest {
         y.make("apply()").due("rightSize()", 60).due("insertRight(1, 1)", Subject.STATE);
         y.make("save()", "deleteRight(0, 0)", "apply()").due("insertRight(1, 1)", 1).make("restore()");
         y.due("insertRight(1, 1)", Subject.STATE);
+    }
+
+    private static void atMost60DifferentRows() {
+        Subject.about("A table has at most 60 rows: 60 different ones, of which each can go");
+        for (int gone : new int[] {0, 1, 30, 58, 59}) {
+            Subject x = new Subject();
+            for (int i = 0; i < 60; i++) {
+                x.make(Subject.call("insertLeft", i / 6, i % 6, i - 30), Subject.call("insertRight", i / 6, i % 6 - 3));
+                if (i % 20 == 19) {
+                    x.make("apply()");
+                }
+            }
+            x.due("leftSize()", 60).due("rightSize()", 60);
+            x.due(Subject.call("deleteLeft", gone / 6, gone % 6, gone - 30), 1);
+            x.due(Subject.call("deleteLeft", gone / 6, gone % 6, gone - 30), Subject.ELEMENT);
+            x.due("insertLeft(4, 4, 99)", 2).due("insertLeft(4, 4, 98)", Subject.STATE);
+            x.due(Subject.call("deleteRight", gone / 6, gone % 6 - 3), 3).due("insertRight(4, 9)", 4);
+            x.due("insertRight(4, 8)", Subject.STATE).make("apply()").due("leftSize()", 60).due("rightSize()", 60);
+            for (int i = 0; i < 60; i++) {
+                x.due(Subject.call("leftCount", i / 6, i % 6, i - 30), i == gone ? 0 : 1);
+                x.due(Subject.call("rightCount", i / 6, i % 6 - 3), i == gone ? 0 : 1);
+            }
+            x.due("leftCount(4, 4, 99)", 1).due("rightCount(4, 9)", 1);
+        }
     }
 
     private static void tablesAreEmptyAtFirst() {

@@ -72,6 +72,10 @@ public final class RefusedCallsTest {
                         "isRaised(3)"));
         cases.add(new Case("nothing to undo or restore", RefusedCallsTest::nothingToUndo).refusesWrongNumbers()
                 .refuses(Subject.STATE, "rollback()", "restore()"));
+        cases.add(new Case("nothing saved", RefusedCallsTest::nothingSaved).refusesWrongNumbers()
+                .refuses(Subject.STATE, "restore()"));
+        cases.add(new Case("saved, but nothing to undo", RefusedCallsTest::savedOnly).refusesWrongNumbers()
+                .refuses(Subject.STATE, "rollback()"));
         cases.add(new Case("a full batch", RefusedCallsTest::fullBatch).refusesWrongNumbers()
                 .refuses(Subject.STATE, "insertLeft(1, 1, 1)", "deleteLeft(1, 1, 1)", "deleteLeft(9, 5, 99)",
                         "insertRight(1, 1)", "deleteRight(1, 1)", "deleteRight(9, 9)"));
@@ -96,6 +100,18 @@ public final class RefusedCallsTest {
     private static Subject nothingToUndo() {
         Subject x = new Subject().make("insertLeft(1, 1, 1)", "insertRight(1, 1)", "watch(1, 1)", "apply()", "rollback()");
         return x.make("insertLeft(2, 2, 2)", "insertRight(2, 1)").type("k=");
+    }
+
+    private static Subject nothingSaved() {
+        Subject x = new Subject().make("insertLeft(1, 1, 1)", "insertLeft(2, 2, 2)", "insertRight(1, 1)", "apply()");
+        x.make("insertRight(2, 3)", "apply()").filter("k=1|v=2").make("insertLeft(2, 2, 5)", "watch(2, 6)", "watch(1, 2)");
+        return x.make("insertLeft(1, 1, 4)", "apply()", "insertRight(1, 5)").type("k=1&");
+    }
+
+    private static Subject savedOnly() {
+        Subject x = new Subject().make("insertLeft(1, 1, 1)", "insertRight(1, 1)", "watch(1, 1)", "apply()").filter("k=1");
+        x.make("save()", "insertLeft(1, 1, 7)", "apply()", "restore()", "insertLeft(3, 3, 3)", "apply()", "rollback()");
+        return x.make("watch(1, 2)", "insertRight(1, 2)", "deleteLeft(1, 1, 1)").type("!(");
     }
 
     private static Subject fullBatch() {
@@ -150,11 +166,12 @@ public final class RefusedCallsTest {
                 }
             }
         }
-        // Of the texts that the states have, those of the first four are wrong as they are.
-        for (int i = 0; i < 4; i++) {
+        // Of the texts that the states have, only the last one is right as it is.
+        int last = cases().size() - 1;
+        for (int i = 0; i < last; i++) {
             cases().get(i).state().make().due("setFilter()", Subject.ARGUMENT);
         }
-        cases().get(4).state().make().due("setFilter()", 0);
+        cases().get(last).state().make().due("setFilter()", 0);
     }
 
     /** Questions leave the state as it is, too. */

@@ -326,6 +326,9 @@ public final class ViewEdgesTest {
         x.make("insertRight(9, -3)", "apply()").due("groupDistinct(2)", 2).make("insertRight(0, -2)", "apply()");
         x.due("groupDistinct(2)", 2).make("insertLeft(0, 2, 0)", "insertLeft(9, 2, 0)", "apply()");
         x.due("groupDistinct(2)", 3).due("groupDistinct(1)", 0).due("groupDistinct(3)", 0);
+        Subject ends = new Subject().make("insertLeft(0, 2, 99)", "insertRight(0, 9)", "apply()").due("groupDistinct(2)", 1);
+        ends.make("insertRight(0, -9)", "apply()").due("groupDistinct(2)", 2);
+        ends.make("deleteRight(0, 9)", "apply()").due("groupDistinct(2)", 1).due("groupElement(2, 0)", -891);
     }
 
     private static void groupElement() {

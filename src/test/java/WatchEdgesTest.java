@@ -189,6 +189,12 @@ public final class WatchEdgesTest {
             x.due("isRaised(0)", call.equals("clearFilter()")).due("apply()", 0).due("changedWatches()", 0);
             x.due("rollback()", 0).due("changedWatches()", 0);
         }
+        for (int group = 0; group <= 5; group++) {
+            Subject x = new Subject().make(Subject.call("watch", group, 1), Subject.call("insertLeft", 0, group, 1),
+                    "insertRight(0, 1)");
+            x.due("apply()", 1).due("changedWatches()", 1).make("clearFilter()").due("changedWatches()", 0);
+            x.filter("v>1").due("changedWatches()", 0).due("isRaised(0)", false);
+        }
         Subject failed = new Subject().make("watch(2, 1)", "insertLeft(0, 2, 1)", "insertRight(0, 1)").due("apply()", 1);
         failed.wrongFilter("v>").due("changedWatches()", 1).due("restore()", Subject.STATE).due("changedWatches()", 1);
         failed.make("save()", "discard()").due("changedWatches()", 1);
