@@ -34,6 +34,7 @@ public final class FilterEdgesTest {
         setFilterOfAFault();
         faultPositionOfNoCall();
         faultPositionOfTheLatestCall();
+        textAndFaultStayOtherwise();
         clearFilter();
         clearFilterLeavesTheBatch();
         accepts();
@@ -554,6 +555,20 @@ public final class FilterEdgesTest {
         x.make("apply()", "rollback()").due("faultPosition()", 5).due("appendCharacter(32)", Subject.ARGUMENT);
         x.due("faultPosition()", 5).wrongFilter("").due("faultPosition()", 0).filter("k=1").due("faultPosition()", -1);
         x.wrongFilter(")").due("faultPosition()", 0).wrongFilter("(".repeat(40)).due("faultPosition()", 40);
+    }
+
+    private static void textAndFaultStayOtherwise() {
+        Subject.about("the text that was read by the latest call of setFilter: no other call changes the fault position or "
+                + "empties the text");
+        String[] others = {"insertLeft(1, 1, 2)", "deleteLeft(1, 1, 1)", "insertRight(1, 2)", "deleteRight(1, 1)", "discard()",
+            "apply()", "rollback()", "watch(0, 0)", "clearWatches()", "clearFilter()", "save()", "restore()",
+            "accepts(0, 0, 0, 0)", "joinRow(0, 0)", "groupElement(1, 0)"};
+        for (String other : others) {
+            Subject x = new Subject().make("insertLeft(1, 1, 1)", "insertRight(1, 1)", "save()", "apply()");
+            x.wrongFilter("k<1)").type("g=").make(other).due("faultPosition()", 3).due("appendCharacter(50)", 3);
+            x.due("faultPosition()", 3).due("setFilter()", 0).due("faultPosition()", -1);
+            x.due("accepts(0, 2, 0, 0)", true).due("accepts(0, 1, 0, 0)", false).make("clearFilter()");
+        }
     }
 
     private static void clearFilter() {
